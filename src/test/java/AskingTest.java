@@ -146,6 +146,11 @@ public final class AskingTest {
         DUE.same("entry(-1, 9): NO_SUCH is named first", x.entry(-1, 9), QuietChecks.NO_SUCH);
         DUE.same("entry(0, 4)", x.entry(0, 4), QuietChecks.BAD_VALUE);
         DUE.same("entry(0, -1)", x.entry(0, -1), QuietChecks.BAD_VALUE);
+        DUE.same("lineAt(0, 0) of \"9 slow 7\"", x.lineAt(0, 0), '9');
+        DUE.same("lineAt(9, 1) of \"18 slow 7\"", x.lineAt(9, 1), '8');
+        DUE.same("lineAt(0, 1) of \"9 slow 7\"", x.lineAt(0, 1), ' ');
+        DUE.same("lineAt(0, 8) behind \"9 slow 7\"", x.lineAt(0, 8), QuietChecks.NO_SUCH);
+        DUE.same("lineAt(9, 8) of \"18 slow 7\"", x.lineAt(9, 8), '7');
         DUE.same("lineAt(10, 0)", x.lineAt(10, 0), QuietChecks.NO_SUCH);
         DUE.same("lineAt(-1, 0)", x.lineAt(-1, 0), QuietChecks.NO_SUCH);
     }
@@ -281,7 +286,7 @@ public final class AskingTest {
         y.set(1, 40);
         y.read(0, 60);
         y.set(0, 0);
-        // all but 3 are checked by hand and given up: their ages stay, so the row still begins behind 3
+        // the check of 1 is given up, so the row still begins behind 3
         y.ask(1);
         y.quiet(1);
         y.giveUp();
@@ -305,10 +310,9 @@ public final class AskingTest {
         DUE.same("7 alone", z.nextCheck(), 7);
         z.set(4, 2000);
         z.read(0, 200);
-        z.set(4, 2000);
         DUE.same("none", z.nextCheck(), QuietChecks.NONE);
         z.set(4, 100);
-        DUE.same("7 first, 6 last", z.nextCheck(), 7);
+        DUE.same("7 first, for 6 ended last", z.nextCheck(), 7);
         QuietChecks w = new QuietChecks();
         w.set(0, 0);
         w.set(1, 40);

@@ -10,6 +10,7 @@ public final class ForecastTest {
         promise21IfQuiet();
         promise22BestWayWorst();
         promise22BestWayRow();
+        promise22BestWayOfThree();
         promise22BestWayRefuses();
         changeNothing();
         DUE.end();
@@ -154,6 +155,26 @@ public final class ForecastTest {
         x.setWay(2);
         DUE.same("ifQuiet(59) by row", x.ifQuiet(59), 4);
         DUE.same("bestWay(24): none is overdue", x.bestWay(24), 0);
+    }
+
+    private static void promise22BestWayOfThree() {
+        QuietChecks x = new QuietChecks();
+        x.set(0, 0);
+        x.set(1, 1);
+        x.set(2, 9);
+        x.set(3, 8);
+        x.set(4, 50);
+        x.spot(7, 9);
+        x.ask(4);
+        x.quiet(19);
+        // a check of 7 takes 73 ticks, the others 1. "oldest": 0 to 3, 5, 6 from 25 on, 7 from 31 to 103; "worst": 7 from
+        // 25 to 97, then 0 to 5; "row": 5, 6 from 25 on, 7 from 27 to 99, then 0 to 3
+        int[] spans = {7, 1, 3};
+        for (int way = 0; way < 3; way++) {
+            x.setWay(way);
+            DUE.same("ifQuiet(84) by way " + way, x.ifQuiet(84), spans[way]);
+            DUE.same("bestWay(84) by way " + way, x.bestWay(84), 1);
+        }
     }
 
     private static void promise22BestWayRefuses() {

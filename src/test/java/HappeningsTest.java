@@ -323,6 +323,12 @@ public final class HappeningsTest {
         DUE.same("it ends", x.quiet(1), 1);
         DUE.spots("looked at by the limit and the spots of its end", x, 6, 3);
         DUE.log("end", x, "1 begins 6", "4 ends 6", "4 replaced 6");
+        QuietChecks y = eager();
+        y.spot(6, 9);
+        y.ask(6);
+        y.quiet(25);
+        DUE.same("the spot is gone", y.count(2), 0);
+        DUE.same("so that a read is not slow", y.read(6, 1), 0);
     }
 
     private static void promise9QuietRefuses() {

@@ -6,6 +6,7 @@ public final class UndoTest {
         promise27EachUndoable();
         promise27AtMostSix();
         promise27ErrorsSaveNothing();
+        promise27ErrorsSaveNothingWhenFull();
         promise27AskingSavesNothing();
         promise27TextStays();
         promise27RowGoesOnAsBefore();
@@ -86,6 +87,19 @@ public final class UndoTest {
         }
         DUE.same("no state is left", x.undo(), QuietChecks.NOT_POSSIBLE);
         DUE.same("tick", x.count(0), 14);
+    }
+
+    private static void promise27ErrorsSaveNothingWhenFull() {
+        QuietChecks x = new QuietChecks();
+        for (int tick = 1; tick <= 20; tick++) {
+            x.quiet(1);
+            DUE.same("quiet(0)", x.quiet(0), QuietChecks.BAD_VALUE);
+        }
+        for (int left = 5; left >= 0; left--) {
+            DUE.same("quiet(501)", x.quiet(501), QuietChecks.BAD_VALUE);
+            DUE.same("undo()", x.undo(), left);
+            DUE.same("tick", x.count(0), 14 + left);
+        }
     }
 
     private static void promise27ErrorsSaveNothing() {
