@@ -17,7 +17,7 @@ public final class AnyArgumentsTest {
     }
 
     private static QuietChecks some(int state) {
-        QuietChecks x = state == 2 ? HappeningsTest.late(99900) : new QuietChecks();
+        QuietChecks x = state == 2 ? Disks.late(99900) : new QuietChecks();
         if (state > 0) {
             x.set(0, 0);
             x.set(2, 9);

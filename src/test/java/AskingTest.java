@@ -156,7 +156,7 @@ public final class AskingTest {
     }
 
     private static void promise17Characters() {
-        QuietChecks x = HappeningsTest.late(99990);
+        QuietChecks x = Disks.late(99990);
         x.spot(6, 9);
         x.set(0, 0);
         x.set(1, 1);

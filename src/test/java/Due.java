@@ -3,6 +3,7 @@ final class Due {
     private final String test;
     private int passed = 0;
     private int failed = 0;
+    private String about = "";
 
     Due(String test) {
         this.test = test;
@@ -13,8 +14,17 @@ final class Due {
             passed++;
         } else {
             failed++;
-            System.out.println(test + ": " + call + " answered " + got + ", due is " + want);
+            System.out.println(test + ": " + about + call + " answered " + got + ", due is " + want);
         }
+    }
+
+    /** What the comparisons from now on are about, for the lines of those that fail. */
+    void about(String words) {
+        about = words + ": ";
+    }
+
+    int compared() {
+        return passed + failed;
     }
 
     void holds(String what, boolean it) {

@@ -82,7 +82,7 @@ public final class ForecastTest {
     }
 
     private static void promise20BeyondTheLastTick() {
-        QuietChecks x = HappeningsTest.late(99999);
+        QuietChecks x = Disks.late(99999);
         x.set(0, 0);
         x.giveUp();
         x.ask(4);

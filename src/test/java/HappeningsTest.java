@@ -27,18 +27,6 @@ public final class HappeningsTest {
         return x;
     }
 
-    /** An object at the given tick, of which 500 come at a time. */
-    static QuietChecks late(int tick) {
-        QuietChecks x = new QuietChecks();
-        while (x.count(0) + 500 <= tick) {
-            x.quiet(500);
-        }
-        if (x.count(0) < tick) {
-            x.quiet(tick - x.count(0));
-        }
-        return x;
-    }
-
     private static void promise5Spot() {
         QuietChecks x = new QuietChecks();
         DUE.same("spot(4, 9)", x.spot(4, 9), 1);
@@ -193,7 +181,7 @@ public final class HappeningsTest {
     }
 
     private static void promise8ReadRefuses() {
-        QuietChecks x = late(99800);
+        QuietChecks x = Disks.late(99800);
         long before = x.digest();
         DUE.same("read(8, 1)", x.read(8, 1), QuietChecks.NO_SUCH);
         DUE.same("read(-1, 0): NO_SUCH is named first", x.read(-1, 0), QuietChecks.NO_SUCH);
@@ -332,7 +320,7 @@ public final class HappeningsTest {
     }
 
     private static void promise9QuietRefuses() {
-        QuietChecks x = late(99500);
+        QuietChecks x = Disks.late(99500);
         long before = x.digest();
         DUE.same("quiet(0)", x.quiet(0), QuietChecks.BAD_VALUE);
         DUE.same("quiet(-1)", x.quiet(-1), QuietChecks.BAD_VALUE);

@@ -168,7 +168,7 @@ public final class TextTest {
         Due.text(full, "spot 1:2;spot 1:3;ask 0");
         DUE.same("carryOut() with the spots full", full.carryOut(), 1);
         DUE.same("list", full.count(8), 0);
-        QuietChecks late = HappeningsTest.late(99900);
+        QuietChecks late = Disks.late(99900);
         Due.text(late, "quiet 100;ask 1");
         DUE.same("carryOut() beyond the last tick", late.carryOut(), 0);
         Due.text(late, "quiet 99;quiet 1");
