@@ -13,6 +13,8 @@ public final class EdgesOfUndoTest {
             x -> x.set(3, 9), x -> x.setWay(1), x -> x.addSpares(3), x -> x.spot(5, 6), x -> x.ask(7), x -> x.unask(4),
             x -> x.read(5, 100), x -> x.quiet(300), QuietChecks::giveUp, QuietChecks::carryOut);
 
+    private static final List<String> WORDS = List.of("begins", "pauses", "ends", "replaced", "stays", "slow");
+
     public static void main(String[] args) throws IOException, ReflectiveOperationException {
         Edges.run(EdgesOfUndoTest.class, DUE);
     }
@@ -331,6 +333,7 @@ public final class EdgesOfUndoTest {
         }
     }
 
+    /** What the digest is to be, by calls that are few enough for any object of these tests. */
     private static long hash(QuietChecks x) {
         Hash hash = new Hash();
         for (int what = 0; what <= 12; what++) {
@@ -347,25 +350,35 @@ public final class EdgesOfUndoTest {
                 hash.add(x.tries(span, index));
             }
         }
-        hash.add(x.entries());
-        for (int index = 0; index < x.entries(); index++) {
-            for (int what = 0; what <= 2; what++) {
-                hash.add(x.entry(index, what));
+        int entries = x.entries();
+        hash.add(entries);
+        for (int index = 0; index < entries; index++) {
+            int[] entry = {x.entry(index, 0), x.entry(index, 1), x.entry(index, 2)};
+            for (int value : entry) {
+                hash.add(value);
             }
-            for (int place = 0; place < x.entry(index, 3); place++) {
-                hash.add(x.lineAt(index, place));
-            }
+            String line = entry[0] + " " + WORDS.get(entry[1] - 1) + " " + entry[2];
+            line.chars().forEach(hash::add);
         }
         hash.add(x.overdue());
         hash.add(x.nextCheck());
         return hash.hash;
     }
 
+    private static QuietChecks slowReads(int reads) {
+        QuietChecks x = new QuietChecks();
+        x.spot(7, 9);
+        for (int i = 0; i < reads; i++) {
+            x.read(7, 1);
+        }
+        return x;
+    }
+
     @Says(promise = 28, words = "Computes a hash of the state.")
     static void digestOfAny() {
         for (int state = 0; state < 3; state++) {
-            QuietChecks x = Disks.ANY.get(state).get();
-            DUE.same("state " + state, x.digest(), hash(x));
+            Supplier<QuietChecks> maker = Disks.ANY.get(state);
+            DUE.same("state " + state, maker.get().digest(), hash(maker.get()));
         }
         DUE.same("the last tick", Disks.atTheLastTick().digest(), hash(Disks.atTheLastTick()));
     }
@@ -438,17 +451,11 @@ public final class EdgesOfUndoTest {
 
     @Says(promise = 28, words = "entries();")
     static void digestOfTheNumberOfEntries() {
-        QuietChecks x = new QuietChecks();
-        x.spot(7, 9);
-        DUE.same("none", x.digest(), hash(x));
-        for (int i = 0; i < 9; i++) {
-            x.read(7, 1);
+        for (int entries : new int[] {0, 1, 9, 10, 11}) {
+            QuietChecks x = slowReads(entries);
+            DUE.same("entries()", x.entries(), Math.min(entries, 10));
+            DUE.same("digest() of " + entries, x.digest(), hash(x));
         }
-        DUE.same("nine", x.digest(), hash(x));
-        x.read(7, 1);
-        DUE.same("ten", x.digest(), hash(x));
-        x.read(7, 1);
-        DUE.same("still ten", x.digest(), hash(x));
     }
 
     @Says(promise = 28, words = "overdue();")
@@ -495,16 +502,14 @@ public final class EdgesOfUndoTest {
 
     @Says(promise = 28, words = "for each entry its tick, kind and span, and all characters of its line;")
     static void digestOfEntries() {
-        QuietChecks x = new QuietChecks();
-        x.spot(7, 9);
         for (int entries = 0; entries <= 12; entries++) {
-            if (entries < 2 || entries > 8) {
-                DUE.same(entries + " entries", x.digest(), hash(x));
-            }
-            x.undo();
-            x.spot(7, 9);
-            x.read(7, 1);
+            QuietChecks x = slowReads(entries);
+            DUE.same(entries + " entries", x.digest(), hash(x));
         }
+        QuietChecks y = Disks.late(99990);
+        y.spot(0, 9);
+        y.read(0, 9);
+        DUE.same("lines with five digits", y.digest(), hash(y));
     }
 
     @Says(promise = 28, words = "Returns the hash.")

@@ -235,11 +235,14 @@ public final class UndoTest {
     }
 
     private static void promise28ByTheList() {
-        QuietChecks x = busy();
-        for (int step = 0; step < 12; step++) {
-            DUE.same("digest() at step " + step, x.digest(), hash(x));
-            change(x, step % 10);
+        for (int steps = 0; steps <= 12; steps++) {
+            QuietChecks x = busy();
+            for (int step = 0; step < steps; step++) {
+                change(x, step % 10);
+            }
+            DUE.same("digest() after " + steps + " steps", x.digest(), hash(x));
         }
+        QuietChecks x = busy();
         x.type('a');
         long before = x.digest();
         x.clearText();
@@ -264,7 +267,8 @@ public final class UndoTest {
             }
         }
         hash = hash * 31 + x.entries();
-        for (int index = 0; index < x.entries(); index++) {
+        int entries = x.entries();
+        for (int index = 0; index < entries; index++) {
             for (int what = 0; what <= 2; what++) {
                 hash = hash * 31 + x.entry(index, what);
             }
