@@ -43,11 +43,8 @@ final class Disks {
     /** An object at the given tick, of which 500 come at a time, with the checks that come of it. */
     static QuietChecks late(int tick) {
         QuietChecks x = new QuietChecks();
-        while (x.count(0) + 500 <= tick) {
-            x.quiet(500);
-        }
-        if (x.count(0) < tick) {
-            x.quiet(tick - x.count(0));
+        for (int left = tick; left > 0; left -= 500) {
+            x.quiet(Math.min(left, 500));
         }
         return x;
     }

@@ -1,7 +1,10 @@
 import java.io.IOException;
 import java.lang.reflect.Method;
+import java.nio.file.Files;
+import java.nio.file.Path;
 import java.util.ArrayList;
 import java.util.List;
+import java.util.stream.Stream;
 
 /** Each piece of a sentence of the document has a test method that stands for it, or names nothing that could break. */
 public final class DocumentTest {
@@ -27,7 +30,17 @@ public final class DocumentTest {
                 }
             }
         }
+        for (String piece : WITHOUT_TESTS) {
+            DUE.holds("the document still says \"" + piece + "\"", document.says(0, piece) || document.says(2, piece));
+        }
+        DUE.same("test classes that stand for words of the document", edgeFiles(), EDGES.size());
         DUE.end();
+    }
+
+    private static long edgeFiles() throws IOException {
+        try (Stream<Path> files = Files.list(Path.of("src", "test", "java"))) {
+            return files.filter(file -> file.getFileName().toString().startsWith("EdgesOf")).count();
+        }
     }
 
     private static List<String> said(int promise) {

@@ -395,6 +395,25 @@ public final class EdgesOfPlansTest {
         DUE.same("as by the methods", x.digest(), y.digest());
     }
 
+    @Says(promise = 26, words = "Carries out the commands of the text")
+    static void carryOutOnlyThisText() {
+        QuietChecks x = Disks.with("ask 1;ask 2");
+        DUE.same("a look at the text", x.syntaxError(), QuietChecks.NONE);
+        DUE.same("does not carry it out", x.count(8), 0);
+        DUE.same("the first text", x.carryOut(), 2);
+        Due.text(x, "read 0:5");
+        DUE.same("a look at the text", x.syntaxError(), QuietChecks.NONE);
+        DUE.same("a look again", x.syntaxError(), QuietChecks.NONE);
+        DUE.same("the second text", x.carryOut(), 1);
+        DUE.same("its ticks, once", x.count(0), 5);
+        Due.text(x, "read 0:7;ask 9");
+        DUE.same("no plan", x.carryOut(), QuietChecks.BAD_TEXT);
+        x.clearText();
+        Due.text(x, "quiet 1;ask 1;read 0:9");
+        DUE.same("the third text", x.carryOut(), 1);
+        DUE.same("its tick", x.count(0), 6);
+    }
+
     /** The plan is carried out up to its star, behind which a command must not be carried out. */
     private static void stops(Supplier<QuietChecks> maker, String marked) {
         int star = marked.indexOf('*');
