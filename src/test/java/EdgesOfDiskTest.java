@@ -81,6 +81,32 @@ public final class EdgesOfDiskTest {
         DUE.same("bestWay(10)", y.bestWay(10), 2);
     }
 
+    @Says(words = "(forecasts may go beyond)")
+    static void agesGrowBeyondTheLastTick() {
+        QuietChecks x = Disks.late(99980);
+        x.set(0, 0);
+        x.set(1, 1);
+        x.set(4, 50);
+        x.giveUp();
+        for (int span = 0; span < 8; span++) {
+            x.ask(span);
+            x.quiet(1);
+            DUE.same("stamp", x.span(span, 0), 99981 + span);
+        }
+        x.read(0, 11);
+        DUE.same("count(0)", x.count(0), 99999);
+        DUE.same("none is due", x.nextCheck(), QuietChecks.NONE);
+        DUE.same("0 is due at 100006", x.checkedIn(0), 7);
+        DUE.same("7 is due at 100013", x.checkedIn(7), 14);
+        x.set(1, 40);
+        // 0 is checked from 100006 to 100045, and is overdue at 100032, 1 at 100033
+        DUE.same("ifQuiet(32)", x.ifQuiet(32), 0);
+        DUE.same("ifQuiet(33)", x.ifQuiet(33), 1);
+        DUE.same("ifQuiet(34)", x.ifQuiet(34), 2);
+        DUE.same("ifQuiet(45)", x.ifQuiet(45), 8);
+        DUE.same("ifQuiet(46)", x.ifQuiet(46), 7);
+    }
+
     /** The first value of a setting, both ends of its range, and both values next to them. */
     private static void range(int setting, int lowest, int highest, int first) {
         QuietChecks x = new QuietChecks();
